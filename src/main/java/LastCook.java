@@ -1473,7 +1473,7 @@ public final class LastCook {
             int bits = (1 << MOST_GUESTS) - 1;
             for (int i = 0; i < size; i++) {
                 for (int guest = 0; guest < MOST_GUESTS && minutes[i] == minute; guest++) {
-                    if (road.yards[guest] <= yards[i] != near[i]) {
+                    if ((road.yards[guest] <= yards[i]) != near[i]) {
                         bits &= ~(1 << guest);
                     }
                 }
