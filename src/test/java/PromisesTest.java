@@ -118,7 +118,18 @@ public final class PromisesTest {
         }
         c.due("3: no mark", x.mark(2, true), false);
         c.due("3: nothing undone", x.undo(), false);
-        c.due("3: has not cooked", x.guest(2, 7), 0);
+        c.due("3: has not cooked", x.guest(0, 7) + x.guest(1, 7) + x.guest(2, 7), 0);
+        Check.supper(x, "bend 5;hour 6;snow 7;tastes 8;");
+        Check.supper(x, "bend 6;hour 7;snow 8;tastes 9;");
+        c.due("3: told anew", x.count(1) * 100 + x.count(2) * 10 + x.count(5), 678);
+        Check.supper(x, THREE);
+        Check.supper(x, THREE);
+        c.due("3: as at first", x.count(1) * 1000 + x.count(2) * 10 + x.count(5), 10300);
+        Check.minutes(x, 6);
+        c.due("3: by skill again", x.count(7), 12);
+        x.mark(0, false);
+        Check.supper(x, THREE);
+        c.due("3: no mark 0", x.mark(0, true), false);
     }
 
     private void supperFault(String text, int kind, int place) {
@@ -138,6 +149,7 @@ public final class PromisesTest {
         supperFault("bend x;", 1, 5);
         supperFault("bend 0;", 4, 5);
         supperFault("bend 51;", 4, 5);
+        supperFault("bend 50;bend", 3, 8);
         supperFault("hour 201;", 4, 5);
         supperFault("hour 5;hour", 3, 7);
         supperFault("snow 1;snow 1;", 3, 7);
@@ -157,6 +169,11 @@ public final class PromisesTest {
         supperFault("guest a plain off x", 1, 18);
         supperFault("guest a plain off 301 pace", 4, 18);
         supperFault("guest a plain off 1 pace 0 cooks", 4, 25);
+        supperFault("guest a plain off 1 pace 31 cooks", 4, 25);
+        supperFault("guest az plain off 1 pace 1 cooks 0;guest za plain off 1 pace 1 cooks 0;", 0, 0);
+        supperFault("guest z{ plain", 1, 7);
+        supperFault("guest ` plain", 1, 6);
+        supperFault("guest a not off", 1, 8);
         supperFault("guest a plain off 1 pace 1 cooks 21;", 4, 33);
         supperFault("guest a plain off 1 pace 1 cooks 1,", 1, 34);
         String one = "guest a plain off 1 pace 1 cooks 1;";
@@ -214,10 +231,10 @@ public final class PromisesTest {
 
     private void lawValues() {
         String[] laws = {"skill", "late", "guests", "night", "9999", "0-9999", "99", "0-99", "100", "1-2-3", "2+3*4", "(2+3)*4",
-            "2<3", "3<3", "3=3", "1+2=3", "not 0", "not 5", "not 0*9", "not (0*9)", "1 or 1 and 0", "0 and 0 or 1", "5 and 3",
+            "2<3", "3<3", "3=3", "3=4", "1+2=3", "not 0", "not 5", "not 0*9", "not (0*9)", "1 or 1 and 0", "0 and 0 or 1", "5 and 3",
             "5 or 0", "0 or 0", "1<2 and 3<4", "1<2+0 or 0", "9999*9999*9999", "9999*9999*5", "skill*late-night+guests",
             "1+(2<3)+(4=4)", "not not 5"};
-        int[] due = {7, 2, 1, 0, 99, -99, 99, -99, 99, -4, 14, 20, 1, 0, 1, 1, 1, 0, 9, 1, 0, 1, 1, 1, 0, 1, 1, -99, 99, 15, 3, 1};
+        int[] due = {7, 2, 1, 0, 99, -99, 99, -99, 99, -4, 14, 20, 1, 0, 1, 0, 1, 1, 0, 9, 1, 0, 1, 1, 1, 0, 1, 1, -99, 99, 15, 3, 1};
         for (int i = 0; i < laws.length; i++) {
             c.due("3: taste by " + laws[i], taste(laws[i]), due[i]);
         }
@@ -380,6 +397,9 @@ public final class PromisesTest {
         Check.minutes(x, 3);
         c.due("9: first in", x.guest(2, 4), 0);
         c.due("9: by numbers", x.guest(0, 4) * 10 + x.guest(1, 4), 12);
+        x = Check.at("guest a plain off 20 pace 5 cooks 4;snow 3;");
+        Check.minutes(x, 2);
+        c.due("9: one snow for all", x.guest(0, 1), 16);
         x = Check.at("guest a plain off 1 pace 30 cooks 1;hour 1;tastes late;");
         x.minute();
         c.due("9: not beyond the hour", x.count(7), 0);
@@ -575,9 +595,14 @@ public final class PromisesTest {
         c.due("16: 6 times 350", x.nights(6), 1);
         x.wheel(0, 60);
         c.due("16: over 400 is no bar", x.nights(1), 1);
-        x = Check.at(slow + "snow 9;");
-        Check.minutes(x, 1);
-        c.due("16: 2099", x.nights(6), 1);
+        x = Check.at("guest a plain off 300 pace 1 cooks 1;guest b shy off 300 pace 1 cooks 1;guest d great off 300 pace 1 cooks 2;"
+            + "bend 50;");
+        c.due("16: 2400", x.nights(6), 2);
+        x.wheel(0, 1);
+        c.due("16: 2401", x.nights(6), NONE);
+        c.due("16: 2001", x.nights(5), 2);
+        x.minute();
+        c.due("16: 2400 then", x.nights(6), 2);
     }
 
     private void delay() {
@@ -609,6 +634,10 @@ public final class PromisesTest {
         c.due("18: never eaten", Check.at(COUPLE).spare(0), NONE);
         x = Check.at("guest a plain off 10 pace 10 cooks 1;guest b plain off 300 pace 1 cooks 1;");
         c.due("18: by none", x.spare(1), NONE);
+        x = Check.at("guest a plain off 10 pace 1 cooks 1;guest b plain off 110 pace 2 cooks 1;");
+        c.due("18: by 9, ten minutes, is last by number", x.spare(1), NONE);
+        x = Check.at("guest b plain off 110 pace 2 cooks 1;guest a plain off 10 pace 1 cooks 1;");
+        c.due("18: by 9", x.spare(0), 9);
     }
 
     private void best() {
@@ -622,6 +651,15 @@ public final class PromisesTest {
         c.due("19: of equal ones the first", x.best(), 16);
         x = Check.at("guest a plain off 10 pace 10 cooks 5;guest b plain off 60 pace 5 cooks 5;");
         c.due("19: as good is not better", x.best(), NONE);
+        x = Check.at("guest a plain off 60 pace 5 cooks 2;guest b plain off 10 pace 10 cooks 5;tastes skill*10;");
+        c.due("19: by the first", x.best(), 1);
+        Check.minutes(x, 12);
+        c.due("19: eaten", x.count(7), 20);
+        c.due("19: the next supper alone", x.best(), 1);
+        x.wheel(1, 60);
+        c.due("19: he cooks by himself", x.best(), NONE);
+        x = Check.at("guest a plain off 60 pace 5 cooks 2;guest b plain off 60 pace 4 cooks 5;tastes 0-late;hour 1;");
+        c.due("19: below 0", x.best(), NONE);
         c.due("19: never", Check.at(COUPLE).best(), NONE);
         c.due("19: nothing is hired", x.guest(0, 6), NONE);
     }
@@ -646,6 +684,8 @@ public final class PromisesTest {
         c.due("21: behind 2", x.meets(2, 0), 2);
         c.due("21: same", x.meets(1, 1), NONE);
         c.due("21: guest 3", x.meets(0, 3), NONE);
+        c.due("21: guest 3 first", x.meets(3, 0), NONE);
+        c.due("21: guest 6", x.meets(0, 6), NONE);
         c.due("21: guest -1", x.meets(-1, 0), NONE);
         Check.minutes(x, 4);
         c.due("21: in the next night", x.meets(1, 2), 2);
@@ -727,6 +767,12 @@ public final class PromisesTest {
         x.wheel(1, 60);
         Check.minutes(x, 63);
         c.due("26: one each and one", x.fair(), 1);
+        x = Check.at("guest a plain off 9 pace 1 cooks 1;guest b plain off 1 pace 1 cooks 1;");
+        Check.minutes(x, 18);
+        c.due("26: the first, twice", x.fair(), 2);
+        x = Check.at("guest a plain off 1 pace 1 cooks 1;");
+        Check.minutes(x, 18);
+        c.due("26: one alone", x.fair(), 0);
     }
 
     private void see() {
@@ -770,6 +816,16 @@ public final class PromisesTest {
         c.due("29: none parts them", x.ask(), NONE);
         x = Check.at("guest a plain off 300 pace 5 cooks 1;guest b plain off 300 pace 6 cooks 1;snow 9 9 9 9 9 9 9 0;");
         c.due("29: behind 8", x.ask(), 8287);
+        x = Check.at("guest a plain off 120 pace 1 cooks 1;guest b plain off 120 pace 1 cooks 1;");
+        x.wheel(0, 59);
+        x.wheel(1, 60);
+        c.due("29: behind 60", x.ask(), 60119);
+        x.minute();
+        c.due("29: behind 59", x.ask(), 59119);
+        x = Check.at("guest a plain off 120 pace 1 cooks 1;guest b plain off 120 pace 1 cooks 1;guest d great off 120 pace 2 cooks 1;");
+        c.due("29: d parts one from two, behind 1", x.ask(), 1118);
+        x = Check.at("guest a plain off 40 pace 1 cooks 1;guest b plain off 30 pace 1 cooks 1;guest d plain off 20 pace 2 cooks 1;");
+        c.due("29: the least yards", x.ask(), 20);
         x = Check.at("guest a plain off 4 pace 4 cooks 1;guest b plain off 4 pace 3 cooks 1;");
         c.due("29: in is 0 yards", x.ask(), 1000);
     }
@@ -821,7 +877,8 @@ public final class PromisesTest {
         LastCook x = three();
         for (int seed = 0; seed < 40; seed++) {
             int minutes = 1 + 13 * seed % 99;
-            byHand(seed, minutes);
+            byHand(THREE, 3, seed, minutes);
+            byHand("guest a plain off 9 pace 1 cooks 2;", 1, 250 * seed, minutes);
         }
         c.due("32: seed -1", x.years(-1, 5, 0), -100000);
         c.due("32: seed 10000", x.years(10000, 5, 0), -100000);
@@ -836,9 +893,9 @@ public final class PromisesTest {
     }
 
     /** The same deeds by the calls of the face. */
-    private void byHand(int seed, int minutes) {
-        LastCook x = three();
-        Check.minutes(x, seed % 5);
+    private void byHand(String supper, int guests, int seed, int minutes) {
+        LastCook x = Check.at(supper);
+        Check.minutes(x, seed % 20);
         int[] got = {x.years(seed, minutes, 0), x.years(seed, minutes, 1), x.years(seed, minutes, 2)};
         int eaten = x.count(8);
         int tasted = x.count(7);
@@ -846,8 +903,8 @@ public final class PromisesTest {
         for (int i = 0; i < minutes; i++) {
             int deed = draw(g, 8);
             if (deed <= 2) {
-                int who = draw(g, 3);
-                int other = draw(g, deed == 0 ? 20 : deed == 1 ? 9 : 3);
+                int who = draw(g, guests);
+                int other = draw(g, deed == 0 ? 20 : deed == 1 ? 9 : guests);
                 if (deed == 0) {
                     x.wheel(who, other + 1);
                 } else if (deed == 1) {
@@ -903,7 +960,26 @@ public final class PromisesTest {
         Check.minutes(x, 1);
         x.mark(0, true);
         c.due("33: minute 4 again", x.count(4), 4);
-        c.due("33: judged by the lines gone back to", x.judged(0), NONE);
+        x = three();
+        Check.night(x, "wheel cat 1;minute;minute;minute;run ben 1;hire ben cat;");
+        x.see(2, 10, true);
+        x.mark(1, false);
+        Check.night(x, "hire ann ben;hire cat ben;run ann 2;minute;minute;minute;minute;");
+        Check.supper(x, "guest");
+        x.see(0, 0, true);
+        c.due("33: lines told since", x.judged(0), 1);
+        c.due("33: seen since", x.who(), 0);
+        x.mark(1, true);
+        c.due("33: the lines gone back to", x.judged(0), 4);
+        c.due("33: what was seen", x.who(), 2);
+        x = three();
+        x.mark(2, false);
+        x.see(2, 10, true);
+        x.mark(1, false);
+        x.mark(2, true);
+        x.see(5, 0, false);
+        x.mark(1, true);
+        c.due("33: another sight in its place", x.who(), 2);
     }
 
     private void count() {
