@@ -548,6 +548,7 @@ public final class PromisesTest {
         x.minute();
         c.due("12: 400 then", x.when(), 400);
         c.due("14: by 400", x.order(1), 1);
+        c.due("23: at 400", x.with(1), 0);
     }
 
     private void order() {
@@ -725,6 +726,11 @@ public final class PromisesTest {
         x = three();
         Check.minutes(x, 5);
         c.due("23: the last minute of the night", x.with(2), 0);
+        x = Check.at("guest a plain off 3 pace 1 cooks 1;guest b plain off 3 pace 1 cooks 1;guest d plain off 9 pace 1 cooks 1;");
+        Check.minutes(x, 9);
+        x.wheel(1, 4);
+        Check.minutes(x, 3);
+        c.due("23: of the next night", x.with(0), 0);
     }
 
     private void boy() {
@@ -849,6 +855,9 @@ public final class PromisesTest {
         x = Check.at("guest a plain off 10 pace 10 cooks 1;");
         c.due("30: it was eaten in them", x.chance(0, 2, 3), 910000);
         c.due("30: nothing is done", x.count(3) + x.count(4), 0);
+        x = Check.at("guest a plain off 12 pace 11 cooks 1;guest b plain off 300 pace 1 cooks 1;");
+        c.due("30: 2 yards by a snow of 9", x.chance(0, 6, 10), 1000000);
+        c.due("30: not by 5 of them", x.chance(0, 5, 10), 0);
     }
 
     private void rests() {
@@ -965,13 +974,18 @@ public final class PromisesTest {
         x.see(2, 10, true);
         x.mark(1, false);
         Check.night(x, "hire ann ben;hire cat ben;run ann 2;minute;minute;minute;minute;");
-        Check.supper(x, "guest");
         x.see(0, 0, true);
         c.due("33: lines told since", x.judged(0), 1);
         c.due("33: seen since", x.who(), 0);
         x.mark(1, true);
         c.due("33: the lines gone back to", x.judged(0), 4);
         c.due("33: what was seen", x.who(), 2);
+        x = three();
+        Check.night(x, "wheel cat 60;minute;minute;minute;minute;minute;minute;");
+        x.mark(0, false);
+        Check.night(x, "wheel cat 1;");
+        x.mark(0, true);
+        c.due("33: by how long a wheel", x.judged(1), NONE);
         x = three();
         x.mark(2, false);
         x.see(2, 10, true);
