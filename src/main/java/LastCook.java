@@ -981,23 +981,19 @@ public final class LastCook {
 
         boolean read(Tape tape) {
             clear();
-            for (int i = 0; i < Tape.MOST_SIGNS && !tape.isAtEnd(); i++) {
-                if (!readLine(tape) || !tape.takeSign(';')) {
-                    return false;
+            boolean right = true;
+            for (int i = 0; i < Tape.MOST_SIGNS && right && !tape.isAtEnd(); i++) {
+                switch (tape.wordHere()) {
+                    case Tape.GUEST: right = readGuest(tape); break;
+                    case Tape.BEND: right = readBend(tape); break;
+                    case Tape.HOUR: right = readHour(tape); break;
+                    case Tape.SNOW: right = readSnow(tape); break;
+                    case Tape.TASTES: right = law.read(tape); break;
+                    default: right = tape.wrong(1); break;
                 }
+                right = right && tape.takeSign(';');
             }
-            return true;
-        }
-
-        private boolean readLine(Tape tape) {
-            switch (tape.wordHere()) {
-                case Tape.GUEST: return readGuest(tape);
-                case Tape.BEND: return readBend(tape);
-                case Tape.HOUR: return readHour(tape);
-                case Tape.SNOW: return readSnow(tape);
-                case Tape.TASTES: return law.read(tape);
-                default: return tape.wrong(1);
-            }
+            return right;
         }
 
         private boolean readGuest(Tape tape) {
