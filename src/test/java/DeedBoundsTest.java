@@ -39,6 +39,7 @@ public final class DeedBoundsTest {
         t.markAnswers();
         t.markHolds();
         t.count();
+        t.calls512();
         t.c.end();
     }
 
@@ -597,6 +598,24 @@ public final class DeedBoundsTest {
         c.due("ann", x.who(), 1);
         x.mark(1, true);
         c.due("ben again", x.who(), 2);
+    }
+
+    private void calls512() {
+        c.sentence("An object is used for at most 512 calls after it has been made");
+        LastCook x = new LastCook();
+        Check.supper(x, "guest a plain off1pace1cooks9;tastes99;");
+        Check.minutes(x, 506);
+        c.due("call 510: the night", x.count(3), 506);
+        c.due("call 511: tasted", x.count(7), 506 * 99);
+        c.due("call 512: how often he has cooked", x.guest(0, 7), 506);
+        x = new LastCook();
+        Check.minutes(x, 511);
+        c.due("call 512: the minute", x.count(4), 511);
+        x = new LastCook();
+        for (int i = 0; i < 511; i++) {
+            x.mark(i % 4, i % 8 > 3);
+        }
+        c.due("call 512: a mark", x.mark(3, true), true);
     }
 
     private void count() {

@@ -31,8 +31,10 @@ public final class GuessBoundsTest {
         t.chanceOthers();
         t.rests();
         t.restsOthers();
+        t.restsGains();
         t.restsLeastFirst();
         t.draws();
+        t.yearsIfItCanBe();
         t.years();
         t.yearsAhead();
         t.yearsOthers();
@@ -341,6 +343,21 @@ public final class GuessBoundsTest {
         c.alike("all as it is", Check.picture(x), ahead);
     }
 
+    private void restsGains() {
+        c.sentence("both go in: each loses so much (0 to 9); one does: he gets so much (0 to 9), the other one so much (0 to 9); "
+            + "both wait: nothing");
+        LastCook x = new LastCook();
+        for (int n = 0; n <= 9; n++) {
+            c.due("both go in only if nothing is lost by it: " + n, Check.rests(x, n, 5, 0, NONE), n == 0 ? 3 : 2);
+            c.due("both wait only if nothing is got by going: " + n, Check.rests(x, 5, n, 5, NONE), n == 0 ? 3 : 2);
+            c.due("both go in only if nothing is got by waiting: " + n, Check.rests(x, 0, 5, n, NONE), n == 0 ? 3 : 2);
+        }
+        c.sentence("what NONE: how many");
+        c.due("what -1", Check.rests(x, 0, 0, 0, -1), 4);
+        c.due("what -2", Check.rests(x, 0, 0, 0, -2), NOT_THERE);
+        c.due("what 0", Check.rests(x, 0, 0, 0, 0), 0);
+    }
+
     private void restsLeastFirst() {
         c.sentence("i: the i-th as 2 * the first one's choice + the other one's (1 goes in; the least first)");
         LastCook x = new LastCook();
@@ -394,6 +411,20 @@ public final class GuessBoundsTest {
         c.due("how often by " + seed + ", " + minutes, got[0], x.count(8));
         c.due("tasted by " + seed + ", " + minutes, got[1], x.count(7));
         c.due("on the road by " + seed + ", " + minutes, got[2], x.count(6));
+    }
+
+    private void yearsIfItCanBe() {
+        c.sentence("0: one below GUESTS: a WHEEL by a DRAW below 20 and 1, if it can be, 1: one below GUESTS: a RUN by a DRAW below 9 "
+            + "and 1, if it can be, 2: one below GUESTS, one more: that HIRE, if it can be; then the MINUTE");
+        StringBuilder six = new StringBuilder("snow 0 2;tastes skill-late;hour 12;");
+        String[] kinds = {"plain", "doctor", "shy", "great", "plain", "plain"};
+        for (int i = 0; i < 6; i++) {
+            six.append(Check.guest("g" + (char) ('a' + i), kinds[i], 5 + 9 * i, 3, 3 * i));
+        }
+        for (int seed = 0; seed < 60; seed++) {
+            byHand(six.toString(), 6, 37 * seed, 99);
+            byHand(Check.guest("a", "plain", 1, 1, 2) + Check.guest("b", "plain", 200, 4, 3), 2, 37 * seed, 99);
+        }
     }
 
     private void years() {
