@@ -779,7 +779,7 @@ public final class LastCook {
         private static final int MINUS = -11;
         private static final int TIMES = -12;
 
-        private static final int LOOSEST = 1;
+        static final int LOOSEST = 1;
         private static final int COMPARING = 2;
         private static final int ADDING = 3;
         private static final int TIGHTEST = 4;
@@ -795,17 +795,17 @@ public final class LastCook {
             length = 0;
         }
 
-        /** Reads from the word tastes on. */
-        boolean read(Tape tape) {
+        /** Takes the word tastes, which must be the first one. */
+        boolean takeTastes(Tape tape) {
             if (length > 0) {
                 return tape.wrong(3);
             }
             tape.advance();
-            return readOver(tape, LOOSEST, 0);
+            return true;
         }
 
         /** Reads parts joined by operators that bind at least as tightly as is said. */
-        private boolean readOver(Tape tape, int tightness, int within) {
+        boolean readOver(Tape tape, int tightness, int within) {
             if (!readPart(tape, within)) {
                 return false;
             }
@@ -988,7 +988,7 @@ public final class LastCook {
                     case Tape.BEND: right = readBend(tape); break;
                     case Tape.HOUR: right = readHour(tape); break;
                     case Tape.SNOW: right = readSnow(tape); break;
-                    case Tape.TASTES: right = law.read(tape); break;
+                    case Tape.TASTES: right = law.takeTastes(tape) && law.readOver(tape, Law.LOOSEST, 0); break;
                     default: right = tape.wrong(1); break;
                 }
                 right = right && tape.takeSign(';');
