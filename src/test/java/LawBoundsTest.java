@@ -14,6 +14,7 @@ public final class LawBoundsTest {
         t.products();
         t.parts();
         t.withinFive();
+        t.mostWaiting();
         t.faultWithinFive();
         t.skill();
         t.late();
@@ -159,6 +160,21 @@ public final class LawBoundsTest {
         right("not((1)) and not((2)) or not((3))");
         faulty("(((1+((2)))))", 5, 7);
         right("(((1+(2))))");
+    }
+
+    private void mostWaiting() {
+        c.sentence("no PART lies within 5 of not and ( )");
+        for (int skill = 0; skill <= 1; skill++) {
+            // Each level turns 0 into 1 and 1 into 0 with one operator of each tightness waiting for what is inside.
+            String law = "1 and 1<2-1*skill";
+            for (int levels = 1; levels <= 5; levels++) {
+                LastCook x = Check.at(Check.guest("a", "plain", 1, 1, skill) + "tastes " + law + ";");
+                x.minute();
+                c.due(law + " of " + skill, x.count(7), (skill + levels) % 2);
+                law = "1 and 1<2-1*(" + law + ")";
+            }
+            c.due("one level more", fault(law), 5 + 16 * (7 + 5 * 13));
+        }
     }
 
     private void faultWithinFive() {

@@ -331,6 +331,14 @@ public final class QuestionBoundsTest {
         c.due("worse than -98, too: 400", x.best(), 1);
         x.wheel(0, 1);
         c.due("401", x.best(), NONE);
+        x = Check.at(Check.guest("a", "plain", 1, 1, 0) + Check.guest("b", "plain", 1, 1, 9) + "tastes skill-99-night;");
+        Check.minutes(x, 30);
+        c.due("tasted far below what is worse than all", x.count(7) < -2000, true);
+        c.due("the next supper is told by itself: none is better", x.best(), NONE);
+        x = Check.at(Check.guest("a", "plain", 2, 1, 9) + Check.guest("b", "plain", 3, 1, 0) + "tastes (skill=9)*9-99;");
+        Check.minutes(x, 90);
+        c.due("thirty nights", x.count(8), 30);
+        c.due("b hires a, far below", x.best(), 8);
     }
 
     private void bestFirst() {
