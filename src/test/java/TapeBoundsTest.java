@@ -240,5 +240,11 @@ public final class TapeBoundsTest {
         LastCook x = Check.at(Check.guest("abcdefgh", "plain", 5, 1, 1));
         c.due("a name of eight in a night", Check.night(x, "wheel abcdefgh 5;"), 0);
         c.due("and of nine", Check.night(x, "wheel abcdefghi 5;"), 1 + 16 * 6);
+        for (char sign : "()<=+-*;".toCharArray()) {
+            String number = "000" + (int) sign;
+            c.due(number + " is not " + sign + ", as a PART", fault("tastes " + number + " 1);"), 1 + 16 * 7);
+            c.due(number + " is not " + sign + ", behind one", fault("tastes (1 " + number + " 1;"), 1 + 16 * 10);
+            c.due(number + " is not " + sign + ", behind a line", fault("bend 9 " + number), 1 + 16 * 7);
+        }
     }
 }
